@@ -1151,7 +1151,7 @@ public final class StorkVote {
                     at = Math.max(at + 1, end);
                 }
             }
-            if (key == NONE || pieceDue || open > 0) {
+            if (pieceDue || open > 0) {
                 return tape.size;
             }
             joinDownTo(1);

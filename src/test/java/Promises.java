@@ -255,6 +255,14 @@ public final class Promises {
         like.rule(0, 21);
         due("pride not reached", like.storkTold(0, 3), NONE);
         due("home is liked more", like.storkTold(1, 3), 0);
+
+        StorkVote home = new StorkVote();
+        home.chimney(0, 0, 20, 20);
+        home.chimney(0, 1, 10, 10);
+        home.stork(1, 1);
+        due("home as much as told, no more", home.storkTold(0, 3), 0);
+        home.set(0, 2, 19);
+        due("home just before the other", home.storkTold(0, 3), 1);
     }
 
     private static void away() {
@@ -415,6 +423,11 @@ public final class Promises {
         due("the empty ones", v.elected(), 0);
         law(v, "seat w");
         due("the last", v.elected(), 3);
+        law(v, "seat n");
+        v.set(0, 3, 0);
+        v.set(0, 2, 0);
+        v.set(1, 1, 1);
+        due("as it is by now", v.elected(), 1);
     }
 
     private static void years() {
@@ -468,6 +481,28 @@ public final class Promises {
         due("no more", v.years(60), 0);
         due("no draws", v.count(11), z);
         due("the last still", v.count(3), 999);
+        chances();
+    }
+
+    /** A draw that is just not below BROOD or LOSS, and one that just is. */
+    private static void chances() {
+        for (int z = 0; z < 400; z++) {
+            int x = (z * 1103515245 + 12345 >>> 8) % 100;
+            for (int more = 0; more <= 1; more++) {
+                StorkVote v = new StorkVote();
+                v.seed(z);
+                v.rule(1, x + more);
+                v.rule(2, x + more);
+                v.stork(1, NONE);
+                due("none come", v.years(1), 0);
+                due("away at " + (x + more), v.storkTold(0, 2), more);
+                v.chimney(0, 0, 50, 50);
+                v.away(0, 0);
+                v.seed(z);
+                due("come at " + (x + more), v.years(1), more);
+                due("stays", v.storkTold(0, 2), 0);
+            }
+        }
     }
 
     private static void frogs() {
@@ -519,6 +554,19 @@ public final class Promises {
         v.away(0, 0);
         v.stork(1, NONE);
         due("another one takes its nest", v.driven(2), 0);
+        v.set(1, 1, 3);
+        v.set(1, 3, 0);
+        v.set(1, 2, 1);
+        due("as it is by now", v.driven(3), NONE);
+        v.set(1, 2, 99);
+        due("as it is by now", v.driven(3), NONE);
+        v.set(0, 1, 0);
+        v.set(2, 1, 3);
+        v.set(1, 1, 1);
+        v.turns(0, 5);
+        due("as it is by now", v.driven(1), NONE);
+        v.set(0, 1, 1);
+        due("as it is by now", v.driven(1), 0);
         due("back as they were", v.count(2), 4);
         due("ward 4", v.driven(4), BAD);
         due("ward -1", v.driven(-1), BAD);
@@ -622,8 +670,8 @@ public final class Promises {
         v.sheet(2, 0, 1);
         v.mark(2, 0, 1);
         due("beyond the sheet", v.rather(2), 10);
-        v.sheet(2, 0, 0);
-        due("an empty sheet", v.rather(2), 0);
+        v.sheet(3, 0, 0);
+        due("an empty sheet", v.rather(3), 0);
 
         StorkVote like = new StorkVote();
         like.chimney(0, 0, 30, 30);
@@ -658,9 +706,9 @@ public final class Promises {
         String[] laws = {"7/2", "(0-7)/2", "7/0", "0/0", "7-2-1", "100/5/2", "2+3*4", "(2+3)*4", "!0", "!5", "!!5",
             "!0+1", "!0*7", "!(1=2)", "1<2", "2<1", "2>1", "1>2", "1=1", "1=2", "5&7", "5&0", "0|7", "0|0", "1|0&0",
             "0&0|1", "1<2&2<1", "1<2|2<1", "1+1=2", "2=1+1", "(1<2)<3", "0007", "9999", "3 * ( 1 < 2 ) + !s",
-            "1|1/0", "0&1/0|3", "!!!!!!!!1", "((((((((7))))))))"};
+            "1|1/0", "0&1/0|3", "1<1", "1>1", "1&1", "1&5", "5&1", "0&1", "1&0", "5|0", "0|1", "1|1", "0-1<0", "0-1>0", "!!!!!!!!1", "((((((((7))))))))"};
         int[] want = {3, -3, 0, 0, 4, 10, 14, 20, 1, 0, 1, 2, 7, 1, 1, 0, 1, 0, 1, 0, 1, 0, 1, 0, 1, 1, 0, 1, 1, 1, 1,
-            7, 9999, 3, 1, 1, 1, 7};
+            7, 9999, 3, 1, 1, 0, 0, 1, 1, 1, 0, 0, 1, 1, 1, 1, 0, 1, 7};
         for (int i = 0; i < laws.length; i++) {
             if (i % 11 == 0) {
                 v = village();
@@ -754,11 +802,18 @@ public final class Promises {
         due("in both sides", law(v, "fine 1<2&2<3|3<4&4<5"), 7);
         due("a test in brackets", law(v, "fine (1<2)=(3<4)"), 8);
         due("it holds", v.fine(), 1);
+        String[] broken = {"fine 1 + ((((((((", "fine !!!!!!!!", "fine 1 < (2 < ", "fine 1 < 2 <", "fine", "seat n |", "fine 5)"};
+        v = new StorkVote();
+        for (int i = 0; i < broken.length; i++) {
+            due("broken", law(v, broken[i]) <= -100 ? 1 : 0, 1);
+            due("nothing is left of it", law(v, "fine !(1<2)+((((((((4)))))))) * !!!!!!!0 = 4"), i);
+            due("it gives", v.fine(), 1);
+        }
     }
 
     private static void faults() {
         promise = 25;
-        String[] laws = {"", " ", "lik", "likes w", "Like w", "5", "like", "like ", "like5", "like12345", "likew",
+        String[] laws = {"", " ", "lik", "likes w", "Like w", "5", "like", "like ", "like5", "like12345", "likew", "likez", "likea", "like`", "like{", "like0", "like9", "like/",
             "like n", "like y", "like s", "seat f", "seat h", "seat y", "fine w", "fine n", "fine h", "fine f",
             "like ww", "like w w", "like w5", "like 5w", "like 5 5", "like 12345", "like 1234 ", "like w+", "like w+ ",
             "like +w", "like -1", "like (", "like ()", "like (w", "like (w ", "like w)", "like (w))", "like w(",
@@ -766,7 +821,7 @@ public final class Promises {
             "like 1<(2)<3", "like w%2", "like w==w", "like w<=w", "like w&&w", "like w||w", "like like", "like w like",
             "like ((((((((( w", "like !!!!!!!!! w", "like !(!(!(!(!(!(!(!(!w", "like ((((((((w+(", "like\tw", "like w\n",
             "like w*/w", "like w W", "like w 12345", "(like w)", "like 1<2+(3<4<5)", "seat n.", "fine s , y"};
-        int[] places = {0, 1, 0, 0, 0, 0, 4, 5, 4, 4, 0,
+        int[] places = {0, 1, 0, 0, 0, 0, 4, 5, 4, 4, 0, 0, 0, 4, 4, 4, 4, 4,
             5, 5, 5, 5, 5, 5, 5, 5, 5, 5,
             5, 7, 6, 6, 7, 5, NONE, 7, 8,
             5, 5, 6, 6, 7, 8, 6, 8, 6,
@@ -888,6 +943,11 @@ public final class Promises {
         v.mark(0, 4, 40);
         v.mark(0, 5, 26);
         due("four change", v.pour(0), 4);
+        v.sheet(3, 1, 1);
+        v.mark(3, 0, 31);
+        due("the first one, by the last sheet", v.pour(3), 1);
+        v.mark(3, 0, 30);
+        due("and again", v.pour(3), 1);
         int[] want = {30, 0, 99, 99, 40, 26};
         for (int i = 0; i < 6; i++) {
             due("frogs at " + i, v.told(i, 3), want[i]);
@@ -1047,6 +1107,8 @@ public final class Promises {
         v.keep();
         v.back();
         due("as it was", v.ask(1, 1), 40);
+        v.lay(4, 1, 0);
+        due("the last slot", v.ask(4, 0), 20);
         due("empty", v.ask(2, 0), NOTHING);
         due("kind 6 of an empty one", v.ask(2, 6), BAD);
         due("kind -1", v.ask(0, -1), BAD);
@@ -1148,6 +1210,18 @@ public final class Promises {
         }
         due("wrong, and too many", told(v, row, 9, 1).check(2), 2);
         due("nothing changed", v.count(3), 30);
+        StorkVote now = new StorkVote();
+        now.chimney(0, 1, 50, 50);
+        now.stork(1, NONE);
+        now.rule(1, 0);
+        now.elected();
+        now.set(0, 2, 0);
+        now.set(0, 3, 0);
+        now.keep();
+        now.rule(2, 0);
+        now.set(0, 2, 50);
+        now.elected();
+        due("by the image's own likes", told(now, new int[] {0, 1}, 2, -1).check(1), 0);
 
         StorkVote old = village();
         for (int i = 0; i < 17; i++) {
