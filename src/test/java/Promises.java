@@ -428,6 +428,9 @@ public final class Promises {
         v.set(0, 2, 0);
         v.set(1, 1, 1);
         due("as it is by now", v.elected(), 1);
+        v.away(0, 1);
+        v.away(1, 1);
+        due("nobody is there any more", v.elected(), 0);
     }
 
     private static void years() {
@@ -567,6 +570,16 @@ public final class Promises {
         due("as it is by now", v.driven(1), NONE);
         v.set(0, 1, 1);
         due("as it is by now", v.driven(1), 0);
+
+        StorkVote two = new StorkVote();
+        two.chimney(0, 1, 10, 40);
+        two.chimney(0, 2, 10, 50);
+        two.stork(1, NONE);
+        two.stork(9, NONE);
+        due("one each", two.elected(), 1);
+        two.set(0, 2, 99);
+        due("by what they like now", two.driven(1), 0);
+        due("by what they like now", two.driven(2), NONE);
         due("back as they were", v.count(2), 4);
         due("ward 4", v.driven(4), BAD);
         due("ward -1", v.driven(-1), BAD);
@@ -813,7 +826,7 @@ public final class Promises {
 
     private static void faults() {
         promise = 25;
-        String[] laws = {"", " ", "lik", "likes w", "Like w", "5", "like", "like ", "like5", "like12345", "likew", "likez", "likea", "like`", "like{", "like0", "like9", "like/",
+        String[] laws = {"", " ", "bike w", "feat n", "mine y", "lik", "likes w", "Like w", "5", "like", "like ", "like5", "like12345", "likew", "likez", "likea", "like`", "like{", "like0", "like9", "like/",
             "like n", "like y", "like s", "seat f", "seat h", "seat y", "fine w", "fine n", "fine h", "fine f",
             "like ww", "like w w", "like w5", "like 5w", "like 5 5", "like 12345", "like 1234 ", "like w+", "like w+ ",
             "like +w", "like -1", "like (", "like ()", "like (w", "like (w ", "like w)", "like (w))", "like w(",
@@ -821,7 +834,7 @@ public final class Promises {
             "like 1<(2)<3", "like w%2", "like w==w", "like w<=w", "like w&&w", "like w||w", "like like", "like w like",
             "like ((((((((( w", "like !!!!!!!!! w", "like !(!(!(!(!(!(!(!(!w", "like ((((((((w+(", "like\tw", "like w\n",
             "like w*/w", "like w W", "like w 12345", "(like w)", "like 1<2+(3<4<5)", "seat n.", "fine s , y"};
-        int[] places = {0, 1, 0, 0, 0, 0, 4, 5, 4, 4, 0, 0, 0, 4, 4, 4, 4, 4,
+        int[] places = {0, 1, 0, 0, 0, 0, 0, 0, 0, 4, 5, 4, 4, 0, 0, 0, 4, 4, 4, 4, 4,
             5, 5, 5, 5, 5, 5, 5, 5, 5, 5,
             5, 7, 6, 6, 7, 5, NONE, 7, 8,
             5, 5, 6, 6, 7, 8, 6, 8, 6,
@@ -942,6 +955,7 @@ public final class Promises {
         v.mark(0, 3, 99);
         v.mark(0, 4, 40);
         v.mark(0, 5, 26);
+        v.mark(0, 6, 50);
         due("four change", v.pour(0), 4);
         v.sheet(3, 1, 1);
         v.mark(3, 0, 31);
@@ -1222,6 +1236,13 @@ public final class Promises {
         now.set(0, 2, 50);
         now.elected();
         due("by the image's own likes", told(now, new int[] {0, 1}, 2, -1).check(1), 0);
+        StorkVote young = new StorkVote();
+        young.chimney(0, 1, 30, 30);
+        young.chimney(0, 0, 20, 20);
+        young.stork(50, NONE);
+        young.rule(1, 100);
+        young.keep();
+        due("elected behind the year, not in it", told(young, new int[] {0, 2}, 2, -1).check(1), 0);
 
         StorkVote old = village();
         for (int i = 0; i < 17; i++) {
