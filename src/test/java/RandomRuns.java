@@ -31,7 +31,7 @@ public final class RandomRuns {
         List<String> done = new ArrayList<>();
         Deque<int[]> planned = new ArrayDeque<>();
         for (int i = 0; i < CALLS; i++) {
-            if (planned.isEmpty() && i > 12 && r.nextInt(10) == 0) {
+            if (planned.isEmpty() && i > 20 && r.nextInt(10) == 0) {
                 plan(r, p, planned);
             }
             int[] a = new int[6];
@@ -57,9 +57,11 @@ public final class RandomRuns {
 
     /** Calls that mean something only one behind the other; the last of each is the number of the call. */
     private static void plan(Random r, Plain p, Deque<int[]> planned) {
-        int way = r.nextInt(4);
+        int way = r.nextInt(5);
         if (way == 0) {
             planNests(r, p, planned);
+        } else if (way == 2) {
+            planElections(r, p, planned);
         } else if (way == 1 && p.image != null) {
             planYears(r, p, planned);
         } else {
@@ -78,6 +80,21 @@ public final class RandomRuns {
         }
         planned.add(new int[] {law.length(), 0, 0, 0, 0, 23});
         planned.add(new int[] {0, 0, 0, 0, 0, 24});
+    }
+
+    /** Many storks that are there and want a nest: then a few frogs, or one stork, may turn an election. */
+    private static void planElections(Random r, Plain p, Deque<int[]> planned) {
+        planned.add(new int[] {0, r.nextInt(40), 0, 0, 0, 9});
+        for (int stork = 0; stork < 10; stork++) {
+            planned.add(new int[] {stork, r.nextInt(6) / 5, 0, 0, 0, 7});
+        }
+        int chimney = r.nextInt(1 + p.now.chimneys.size());
+        for (int ward = 0; ward < 4; ward++) {
+            planned.add(new int[] {ward, 0, 0, 0, 0, 16});
+            planned.add(new int[] {chimney, ward, 0, 0, 0, 15});
+            planned.add(new int[] {ward, 1, 0, 0, 0, 12});
+        }
+        planned.add(new int[] {chimney, 0, 0, 0, 0, 17});
     }
 
     private static void planNests(Random r, Plain p, Deque<int[]> planned) {
@@ -165,8 +182,16 @@ public final class RandomRuns {
         return most <= 0 ? 0 : r.nextInt(most + 1);
     }
 
+    /** Calls that seldom come to an answer that tells much. */
+    private static final int[] OFTEN = {4, 4, 15, 15, 15, 16, 16, 16, 32, 32, 32, 32, 33, 33, 34, 34, 35, 31, 17};
+
     private static int randomCall(Random r, int i, Plain p, int[] a) {
-        int op = i < 12 ? new int[] {0, 5, 10, 9}[r.nextInt(4)] : r.nextInt(NAMES.length);
+        int op = r.nextInt(NAMES.length);
+        if (i < 20) {
+            op = new int[] {0, 0, 5, 5, 5, 9, 37}[r.nextInt(7)];
+        } else if (r.nextInt(4) == 0) {
+            op = OFTEN[r.nextInt(OFTEN.length)];
+        }
         if (op == 14 && r.nextInt(3) > 0 || op == 7 && r.nextInt(2) > 0) {
             op = 39;
         }
@@ -230,15 +255,19 @@ public final class RandomRuns {
 
     private static void expression(Random r, StringBuilder s, String names, int deep) {
         int many = r.nextInt(4);
+        boolean tested = false;
         for (int i = 0; i <= many; i++) {
             if (i > 0) {
-                s.append("|&<=>+-*/+-*".charAt(r.nextInt(12)));
+                char sign = "|&<=>+-*/+-*".charAt(r.nextInt(12));
+                boolean tests = sign >= '<' && sign <= '>';
+                s.append(tests && tested && r.nextInt(8) > 0 ? '+' : sign);
+                tested = (tested || tests) && sign != '|' && sign != '&';
             }
             blanks(r, s);
             while (r.nextInt(6) == 0) {
                 s.append('!');
             }
-            if (r.nextInt(40) == 0) {
+            if (r.nextInt(60) == 0) {
                 s.append("((((((((", 0, r.nextInt(8)).append("!!!!!!!!", 0, r.nextInt(8));
             }
             if (deep > 0 && r.nextInt(4) == 0) {
@@ -248,7 +277,7 @@ public final class RandomRuns {
             } else if (r.nextInt(2) == 0) {
                 s.append(names.charAt(r.nextInt(names.length())));
             } else {
-                s.append(r.nextInt(new int[] {10, 100, 1000, 12000}[r.nextInt(4)]));
+                s.append(r.nextInt(new int[] {10, 100, 1000, 10050}[r.nextInt(4)]));
             }
             blanks(r, s);
         }
