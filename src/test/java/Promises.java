@@ -1,53 +1,5 @@
 /** Each promise by hand: ordinary inputs, the edges that the document names, wrong inputs. */
-public final class Promises {
-    private static final int BAD = StorkVote.BAD, NO = StorkVote.NO, FULL = StorkVote.FULL, NONE = StorkVote.NONE;
-    private static final int NOTHING = StorkVote.NOTHING, KIND = StorkVote.KIND, INDEX = StorkVote.INDEX, SIZE = StorkVote.SIZE;
-    private static final int MIN = Integer.MIN_VALUE, MAX = Integer.MAX_VALUE;
-
-    private static int promise;
-    private static int wrong;
-
-    private static void due(String call, int got, int want) {
-        if (got != want) {
-            wrong++;
-            System.out.println("promise " + promise + ": " + call + " answered " + got + ", due is " + want);
-        }
-    }
-
-    /** Feeds a law and reads it: what text() answers. */
-    private static int law(StorkVote v, String law) {
-        StringBuilder padded = new StringBuilder(law);
-        while (padded.length() % 12 != 0) {
-            padded.append(' ');
-        }
-        for (int i = 0; i < padded.length(); i += 12) {
-            v.feed(four(padded, i), four(padded, i + 4), four(padded, i + 8));
-        }
-        due("trim for " + law, v.trim(law.length()), law.length());
-        return v.text();
-    }
-
-    private static int four(CharSequence s, int at) {
-        return s.charAt(at) << 24 | s.charAt(at + 1) << 16 | s.charAt(at + 2) << 8 | s.charAt(at + 3);
-    }
-
-    /** Six chimneys, one of each kind, and storks that go to five of them. */
-    private static StorkVote village() {
-        StorkVote v = new StorkVote();
-        v.chimney(0, 0, 20, 30);
-        v.chimney(1, 1, 10, 30);
-        v.chimney(2, 2, 60, 20);
-        v.chimney(3, 1, 5, 5);
-        v.chimney(4, 3, 30, 40);
-        v.chimney(5, 0, 9, 25);
-        v.stork(5, NONE);
-        v.stork(9, 1);
-        v.stork(9, NONE);
-        v.stork(2, 5);
-        v.stork(7, NONE);
-        return v;
-    }
-
+public final class Promises extends Due {
     public static void main(String[] args) {
         newObject();
         chimney();
@@ -91,10 +43,7 @@ public final class Promises {
         keep();
         back();
         count();
-        System.out.println(wrong == 0 ? "Promises: all answers are as due" : "Promises: " + wrong + " wrong");
-        if (wrong != 0) {
-            System.exit(1);
-        }
+        end("Promises");
     }
 
     private static void newObject() {
@@ -1219,11 +1168,15 @@ public final class Promises {
         due("nothing told", v.check(1), 1);
         due("one too many", told(v, row, 3, -1).check(1), 3);
         due("more too many", told(v, row, 9, -1).check(2), 5);
-        for (int i = 0; i < 60; i++) {
-            due("wrong at " + i, told(v, row, 60, i).check(30), 1 + i);
-        }
         due("wrong, and too many", told(v, row, 9, 1).check(2), 2);
         due("nothing changed", v.count(3), 30);
+        for (int i = 0; i < 60; i++) {
+            StorkVote anew = village();
+            anew.rule(1, 60);
+            anew.rule(2, 60);
+            anew.keep();
+            due("wrong at " + i, told(anew, row, 60, i).check(30), 1 + i);
+        }
         StorkVote now = new StorkVote();
         now.chimney(0, 1, 50, 50);
         now.stork(1, NONE);
